@@ -170,6 +170,7 @@ public final class ModelTest {
     int dice = draw.nextInt(12);
     if (dice == 0) left = drawnSigns(1 + draw.nextInt(130));
     else if (dice == 1) left = "";
+    else if (dice < 6) left = wildLine();
     else left = lines();
     if (dice == 2 && !left.isEmpty()) {
       int i = draw.nextInt(left.length());
@@ -192,6 +193,13 @@ public final class ModelTest {
       signs.append(draw.nextInt(40) == 0 ? (char) draw.nextInt(256) : SIGNS.charAt(draw.nextInt(SIGNS.length())));
     }
     return signs.toString();
+  }
+
+  /** A text by which players go about as if drawn, so that weeks take long to go in a round. */
+  private String wildLine() {
+    StringBuilder sum = new StringBuilder("(" + draw.nextInt(100));
+    for (char name : "tcphngks".toCharArray()) sum.append("+").append(name).append("*").append(1 + draw.nextInt(99));
+    return sum.append(")*").append(1 + draw.nextInt(9999)).append("%97-").append(draw.nextInt(60)).toString();
   }
 
   private String lines() {

@@ -37,7 +37,10 @@ public final class PromisesTest {
     weeks();
     ways();
     thoughts();
+    rounds();
+    bestByPaying();
     funds();
+    others();
     changes();
     acts();
     shelves();
@@ -345,7 +348,8 @@ public final class PromisesTest {
     String[][] same = {{"2+3*4", "14"}, {"(2+3)*4", "20"}, {"7-2-1", "4"}, {"20/3/2", "3"}, {"-7/2", "-3"}, {"-7%4", "-3"},
         {"7/0", "0"}, {"7%0", "0"}, {"1<2", "1"}, {"2<1", "0"}, {"2>1", "1"}, {"2=2", "1"}, {"5|0", "1"}, {"0|0", "0"},
         {"5&6", "1"}, {"5&0", "0"}, {"!5", "0"}, {"!0", "1"}, {"!-1+1", "1"}, {"1|0&0", "1"}, {"0&0|1", "1"}, {"1+1=2", "1"},
-        {"2-1<1+1", "1"}, {"1<2&3<2", "0"}, {"-2*3", "-6"}, {"9999*9999*9999*9999/9999", "-5714"}, {"t", "40"}, {"c", "9"},
+        {"2-1<1+1", "1"}, {"1<2&3<2", "0"}, {"-2*3", "-6"}, {"9999*9999*9999*9999/9999", "-5714"}, {"2<2", "0"}, {"2>2", "0"},
+        {"2>3", "0"}, {"1&1", "1"}, {"5--1", "6"}, {"5-!0", "4"}, {"1-!1-0", "1"}, {"3*-2+9", "3"}, {"t", "40"}, {"c", "9"},
         {"p", "0"}, {"h", "33"}, {"n", "2"}, {"g", "7"}, {"k", "1"}, {"s", "1"}};
     PaidElsewhere x = new PaidElsewhere();
     x.street(0, 0);
@@ -564,6 +568,179 @@ public final class PromisesTest {
     due(x.off(0, 0), BAD);
     due(x.off(0, 61), BAD);
     due(x.of(0, 22), 0);
+  }
+
+  /** Weeks that go in a round: what comes of them is that of all weeks, not of one round. */
+  private static void rounds() {
+    // player 0 comes to street 0 whenever it was not there; player 1 never comes
+    for (int n = 1; n <= 60; n++) {
+      PaidElsewhere x = on(15);
+      x.street(20, 0);
+      x.street(30, 0);
+      x.window(7, tp(0, 0));
+      x.window(105, tp(0, 0));
+      x.player(3, 0, -1);
+      x.player(0, 0, 1);
+      due(law(x, "c=0?0;k=0?s=0;0"), 1);
+      x.weeks(n, 0);
+      due(x.week(0, 0), n % 2 == 1 ? 0 : -1);
+      int times = (n + 1) / 2;
+      due(x.week(0, 1), times * 17);
+      due(x.week(0, 2), times * 7);
+      due(x.week(1, 1), 0);
+      due(x.week(1, 2), 0);
+    }
+    // it comes in the first week, as nothing was paid ahead of it; then it is the week ahead that counts
+    for (int n = 1; n <= 60; n++) {
+      PaidElsewhere x = on(15);
+      x.street(0, 0);
+      x.street(0, 0);
+      x.player(0, 0, 0);
+      x.pay(0, 109);
+      due(law(x, "k=0?p=0;n=0"), 1);
+      x.weeks(n, 0);
+      due(x.week(0, 0), n % 2 == 1 ? 0 : 1);
+      due(x.week(0, 1), 9 * ((n + 1) / 2));
+    }
+    // without a text two flee together from where they were
+    for (int n = 1; n <= 60; n++) {
+      PaidElsewhere x = on(15);
+      x.street(30, 0);
+      x.street(25, 0);
+      x.player(0, 0, -1);
+      x.player(0, 0, -1);
+      due(x.weeks(n, 0), 2);
+      due(x.week(0, 0), n % 2 == 1 ? 0 : 1);
+      due(x.week(0, 1), (n + 1) / 2 * 30 + n / 2 * 25);
+    }
+    // 10 for each one there outweighs 9 of TAKE
+    PaidElsewhere x = on(15);
+    x.street(30, 0);
+    x.street(21, 0);
+    x.player(0, 0, 0);
+    x.weeks(1, 0);
+    due(x.week(0, 0), 1);
+    // what is kept is of the latest weeks alone
+    due(x.week(0, 1), 21);
+    x.weeks(1, 0);
+    due(x.week(0, 1), 21);
+  }
+
+  private static void bestByPaying() {
+    // a loved one comes once unpaid, and again only if somebody was paid
+    PaidElsewhere x = on(17);
+    x.street(0, 0);
+    x.street(0, 0);
+    x.window(100, tp(50, 0));
+    x.player(1000, 0, -1);
+    due(law(x, "k=0?0;n=0?1;p"), 1);
+    due(x.best(1, 1, 0), 0);
+    due(x.best(1, 1, 1), -50);
+    due(x.best(1, 2, 0), 210);
+    due(x.best(1, 2, 1), -80);
+    // only 90 makes it stay, which is dear unless it is loved much; 490 is as good as 290, but comes later
+    due(law(x, "k=0?0;n=0?1;p>89"), 1);
+    x.window(100, tp(99, 0));
+    due(x.best(1, 60, 0), 0);
+    due(x.best(1, 60, 1), 30 * -149);
+    x.mend(0, 1, 99);
+    due(x.best(1, 60, 0), 290);
+    due(x.best(1, 60, 1), 60 * (90 - 198));
+    // the sum that was told, and the way: both count in thought; others' ways, too
+    x = on(18);
+    x.street(0, 0);
+    x.street(0, 0);
+    x.player(0, 0, -1);
+    x.player(0, 0, -1);
+    due(law(x, "k=0?0;n=0?1;p=150"), 1);
+    x.pay(1, 175);
+    due(x.called(1, 1), 0);
+    due(x.called(1, 2), 2);
+    x.pay(1, 176);
+    due(x.called(1, 2), 0);
+    x.pay(1, 275);
+    due(x.called(1, 2), 0);
+    due(law(x, "k=0?0;n=0?1;p=75"), 1);
+    due(x.called(1, 2), 2);
+    due(x.called(0, 2), 0);
+    // off: one may be there
+    x = on(19);
+    x.street(0, 0);
+    x.player(0, 0, -1);
+    x.player(5, 0, -1);
+    due(law(x, "n=0|c=0|p<7"), 1);
+    due(x.off(0, 2), 7);
+    due(x.of(0, 3), -1);
+  }
+
+  /** The same for other players and streets than the first ones. */
+  private static void others() {
+    PaidElsewhere x = on(9);
+    for (int k = 0; k < 6; k++) x.street(10 * k, 90 - k);
+    for (int w = 0; w < 12; w++) x.window(100 * (w % 6) + 5 * w, tp(-w, 10));
+    for (int p = 0; p < 8; p++) x.player(100 * p + 5 * p, 0, -1);
+    for (int p = 0; p < 8; p++) {
+      for (int w = 0; w < 12; w++) due(x.harm(100 * p + w), 5 * w + w * p / 10);
+      for (int k = 0; k < 6; k++) {
+        int harm = 5 * k + k * p / 10 + 5 * (k + 6) + (k + 6) * p / 10;
+        int least = Math.max(10 * k - 5 * p, 0) + 1, most = harm;
+        int bargain = most >= least ? (least + most) / 2 : NOT, ps = 10 * p + k;
+        promise = 10;
+        due(x.once(ps, 0), harm);
+        due(x.once(ps, 1), least);
+        due(x.once(ps, 2), most);
+        due(x.once(ps, 3), bargain);
+        promise = 11;
+        due(x.waiting(ps, 0, 7, 10), 0);
+        due(x.waiting(ps, 0, 7, 11), k == 0 ? 6 : k);
+        promise = 12;
+        due(x.exactly(ps, 0, 1), 0);
+        promise = 20;
+        due(x.fund(ps, harm, 0), 5 * k + k * p / 10);
+        due(x.fund(ps, harm, 1), harm - 5 * k - k * p / 10);
+        due(x.fund(ps, harm, -2), 0);
+        due(x.fund(ps, 0, 2), BAD);
+        promise = 21;
+        due(x.fetch(ps), bargain == NOT ? NOT : 90 - k < bargain ? 1 : 0);
+        promise = 22;
+        int mostByGood = 5 * k + k + 5 * (k + 6) + k + 6;
+        due(x.worse(ps) == NOT ? 0 : 1, mostByGood >= least ? 1 : 0);
+        promise = 23;
+        due(x.lovers(ps, 0), 0);
+      }
+    }
+    promise = 3;
+    due(x.window(-1, 0), BAD);
+    due(x.window(0, -1), BAD);
+    promise = 5;
+    for (int p = 0; p < 8; p++) due(x.of(p, 0), p);
+    // a window without HARM is none that would pay, and one of 1 is
+    x = on(11);
+    x.street(0, 0);
+    x.window(0, tp(0, 0));
+    x.window(1, tp(0, 0));
+    x.player(0, 0, -1);
+    due(x.waiting(0, 99, 0, 11), 1);
+    due(x.waiting(0, 99, 0, 602), 0);
+    promise = 12;
+    due(x.exactly(0, 99, 1), 0);
+    promise = 20;
+    due(x.fund(0, 5, 0), 0);
+    due(x.fund(0, 5, 1), 5);
+    due(x.fund(0, 5, -2), 2);
+    due(x.fund(0, 0, -1), 1);
+    x.mend(0, 0, 1);
+    due(x.fund(0, 3, 0), 2);
+    due(x.fund(0, 3, -2), 1);
+    due(x.fund(0, 1, -1), 0);
+    promise = 13;
+    for (int n = 1; n <= 4; n++) {
+      PaidElsewhere y = new PaidElsewhere();
+      due(y.feed(n, 0xffffffff), n);
+      due(y.law(), -100);
+      due(y.feed(4, 'n' | '=' << 8 | 'p' << 16 | 0x80 << 24), 4);
+      due(y.law(), -103);
+    }
   }
 
   private static void funds() {
