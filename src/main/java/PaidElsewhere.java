@@ -3,6 +3,8 @@ public final class PaidElsewhere {
   public static final int BAD = -1, NOT = -2, FULL = -3, STATE = -5, VOID = -2000000000;
 
   private static final int NOTHING_THERE = -11, OTHER_KIND = -12, NO_SUCH_PLACE = -13, SIZE_BELOW_0 = -14;
+  /** Long.MIN_VALUE: no row but one of longs can hold it. */
+  private static final long NO_ELEMENT = 1L << 63;
   private static final int STREETS = 6, WINDOWS = 30, PLAYERS = 8;
   private static final int MOST_WEEKS = 60, MOST_ROUNDS = 60;
   private static final int MOST_GOOD = 10, MOST_HEARS = 100, MOST_PURSE = 999, MOST_FUND = 9999;
@@ -318,7 +320,7 @@ public final class PaidElsewhere {
   }
 
   public long element(int shelf, int i) {
-    if (shelves.refusalOf(shelf, i) != 0) return Long.MIN_VALUE;
+    if (shelves.refusalOf(shelf, i) != 0) return NO_ELEMENT;
     return shelves.elementAt(shelf, i);
   }
 
