@@ -56,10 +56,11 @@ public final class PaidElsewhere {
   }
 
   public int windows(int shelf, int i, int n) {
-    if (!shelves.isShelf(shelf) || i < 0 || !isWithin(n, 1, 15)) return BAD;
+    if (!shelves.isShelf(shelf) || !isWithin(n, 1, 15)) return BAD;
     if (shelves.isEmpty(shelf)) return 0;
     if (!shelves.isRowOfShorts(shelf)) return OTHER_KIND;
     int came = 0;
+    // no place is BAD: at one that is not there, below 0 too, the row has ended;
     // i + 4 * came can't wrap: each one that came lay within a row of 60
     while (came < n && comesFromRow(shelf, i + 4 * came)) came++;
     return came;

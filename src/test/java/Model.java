@@ -57,7 +57,7 @@ final class Model {
   }
 
   int windows(int shelf, int i, int n) {
-    if (!in(shelf, 0, 5) || i < 0 || !in(n, 1, 15)) return BAD;
+    if (!in(shelf, 0, 5) || !in(n, 1, 15)) return BAD;
     if (shelves[shelf] == null) return 0;
     if (!(shelves[shelf] instanceof short[])) return -12;
     short[] row = (short[]) shelves[shelf];

@@ -78,7 +78,7 @@ public final class ModelTest {
       case 2: {
         int shelf = in(0, 5);
         fillRow(shelf);
-        a = in(0, 8); b = in(1, 15);
+        a = in(-2, 8); b = in(1, 15);
         if (draw.nextInt(4) == 0) same("windows(" + shelf + ", " + a + ", " + b + ")", x.windows(shelf, a, b), y.windows(shelf, a, b));
         break;
       }
