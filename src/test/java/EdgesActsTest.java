@@ -93,6 +93,14 @@ public final class EdgesActsTest {
   }
 
   private static void actOwn() {
+    edge(28, "An ACT (0 .. 3) of a WINDOW with x.", () -> {
+      int[] due = {0, 5, 10, 5, 9, 0};
+      PaidElsewhere x = fifty();
+      for (int act = -1; act <= 4; act++) {
+        due(x.act(WINDOW, act, 5), due[act + 1]);
+        due(x.count(6) > 0 ? 1 : 0, act >= 0 && act <= 3 ? 1 : 0);
+      }
+    });
     edge(28, "n its number", () -> {
       // the least and the last number: bodies 0 and 48 are WINDOWS, 49 is a WAIT
       PaidElsewhere x = fifty();

@@ -160,6 +160,14 @@ public final class EdgesFundsTest {
   }
 
   private static void fundRefused() {
+    edge(20, "(i -1): HOLDS (1, 0); (-2): WHO would not join, as bits.", () -> {
+      // -3 is neither of them, 0 the first window, and the last one is one less than there are
+      PaidElsewhere x = fund(5, 6, 4);
+      int[] due = {BAD, 0, 0, 6, 4, BAD};
+      for (int i = -3; i <= 2; i++) due(x.fund(0, 10, i), due[i + 3]);
+      int[] more = {BAD, 3, 0, 8, 5, BAD};
+      for (int i : new int[] {-3, -2, -1, 0, 1, 2}) due(x.fund(0, 13, i), more[i + 3]);
+    });
     edge(20, "BAD (also none such).", () -> {
       // street 0 of rich() has windows 0 and 1 of its own, street 1 has one
       for (int i : new int[] {2, 3, 30, -3, -4, LOW, HIGH}) refused(Towns::rich, BAD, x -> x.fund(0, 5, i));

@@ -301,6 +301,15 @@ public final class EdgesOnceTest {
         due(x.waiting(0, 5, 1, rw), 0);
       }
     });
+    edge(11, "In ROUNDS (1 .. 60) by a SEED", () -> {
+      // thirty of HARM 1 by s 35 never pay: what is LOST tells how many ROUNDS went by
+      int[] ones = new int[30];
+      java.util.Arrays.fill(ones, 1);
+      PaidElsewhere x = harms(ones);
+      for (int rounds = -1; rounds <= 62; rounds++) {
+        due(x.waiting(0, 35, 7, 10 * rounds + 2), rounds >= 1 && rounds <= 60 ? 30 * rounds : BAD);
+      }
+    });
     edge(11, "WAITING, a sum s (0 .. 99)", () -> {
       for (int s : new int[] {-1, 100, LOW, HIGH}) {
         for (int rw = 10; rw < 13; rw++) {

@@ -181,6 +181,21 @@ public final class EdgesShelvesTest {
   }
 
   private static void putRefused() {
+    edge(32, "-11 nothing is there where something is wanted; -12 it is of another kind; -13 a place that is not there", () -> {
+      // one shelf, as it comes to hold nothing, a row without places, a row, a WINDOW, nothing again
+      PaidElsewhere x = new PaidElsewhere();
+      x.body(0);
+      due(x.put(0, 0, 1), NOTHING);
+      x.row(0, BYTES, 0);
+      due(x.put(0, 0, 1), NO_PLACE);
+      x.row(0, BYTES, 1);
+      due(x.put(0, 0, 1), 1);
+      due(x.put(0, 1, 1), NO_PLACE);
+      x.keep(0, 0);
+      due(x.put(0, 0, 1), OTHER_KIND);
+      x.keep(0, -1);
+      due(x.put(0, 0, 1), NOTHING);
+    });
     edge(32, "BAD, -11, -12, -13.", () -> {
       for (int shelf : NO_SHELF) refused(Towns::rich, BAD, x -> x.put(shelf, 0, 1));
       refused(Towns::rich, NOTHING, x -> x.put(RICH_NOTHING, 0, 1));

@@ -7,6 +7,7 @@ public final class EdgesStreetsTest {
   public static void main(String[] args) {
     newObject();
     answers();
+    allRefused();
     street();
     window();
     windowsRefused();
@@ -86,6 +87,28 @@ public final class EdgesStreetsTest {
     });
   }
 
+  /** A call of each sort that must be refused on rich(), and does nothing there. */
+  private static final Edges.Call[] REFUSED = {
+    x -> x.street(100, 0), x -> x.window(200, 0), x -> x.windows(6, 0, 1), x -> x.windows(1, 0, 1), x -> x.player(1100, 0, 0),
+    x -> x.mend(0, 3, 1), x -> x.pay(0, 500), x -> x.of(0, 4), x -> x.harm(3), x -> x.once(0, 4), x -> x.waiting(0, 100, 1, 10),
+    x -> x.exactly(0, 1, 61), x -> x.feed(5, 1), x -> x.weeks(61, 1), x -> x.week(9, 0), x -> x.best(0, 61, 0),
+    x -> x.called(0, 0), x -> x.off(2, 1), x -> x.fund(0, 10000, 0), x -> x.fetch(2), x -> x.worse(30), x -> x.lovers(0, 2),
+    x -> x.body(8), x -> x.trace(12), x -> x.keep(0, 3), x -> x.row(0, 5, 1), x -> x.row(0, 1, -1), x -> x.put(0, 5, 1),
+    x -> x.put(1, 0, 1), x -> x.put(5, 0, 1), x -> x.element(0, 5), x -> x.shift(0, 0, 2, 0, 1), x -> x.shift(0, 0, 0, 1, 5),
+    x -> x.taken(5, 0), x -> x.taken(1, 8), x -> x.count(7),
+  };
+
+  private static void allRefused() {
+    edge(1, "What is answered so changes nothing.", () -> {
+      // each of them twice, one behind the other
+      refused(Towns::rich, 0, x -> {
+        long answered = 0;
+        for (Edges.Call call : REFUSED) answered = Math.max(answered, Math.max(call.on(x), call.on(x)));
+        return answered < 0 ? 0 : answered;
+      });
+    });
+  }
+
   private static void street() {
     edge(2, "STREETS 0 .. 5, as they come", () -> {
       PaidElsewhere x = new PaidElsewhere();
@@ -153,6 +176,17 @@ public final class EdgesStreetsTest {
         refused(Towns::rich, BAD, y -> y.window(sq, tp(0, 0)));
       }
       refused(Towns::nothing, BAD, y -> y.window(0, tp(0, 0)));
+    });
+    edge(3, "QUIET (0 .. 99: worth of a WEEK of quiet)", () -> {
+      for (int quiet = 0; quiet < 100; quiet++) {
+        PaidElsewhere x = Towns.streets(0);
+        due(x.window(quiet, tp(0, 0)), 0);
+        due(x.of(0, 11), quiet);
+      }
+      // one more is the QUIET 0 of the next street, one less is none
+      refused(Towns::nothing, BAD, x -> x.window(100, tp(0, 0)));
+      due(Towns.streets(0).window(100, tp(0, 0)), BAD);
+      due(Towns.streets(0).window(-1, tp(0, 0)), BAD);
     });
     edge(3, "TUNE (-99 .. 99: worth of a WEEK of a tune, times how good it is by 10)", () -> {
       PaidElsewhere x = Towns.streets(0);

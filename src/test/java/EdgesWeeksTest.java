@@ -277,6 +277,16 @@ public final class EdgesWeeksTest {
         }
       }
     });
+    edge(15, "(3: its LAW of quiet for each there)", () -> {
+      // for none, one, eight there; the SUM is nothing to it
+      for (int there : new int[] {0, 1, 8}) {
+        for (int law : new int[] {1, 99}) {
+          PaidElsewhere x = stayers(law, 399, new int[there]);
+          due(x.weeks(60, 0), there);
+          due(x.week(0, 2), 60 * law * there);
+        }
+      }
+    });
     edge(15, "COST to a STREET: HARM of the STREET by each who plays, and what it paid", () -> {
       // a tune that is loved: COST below 0; a street without windows: only what it paid
       PaidElsewhere x = stayers(0, 0, 10, 0);
